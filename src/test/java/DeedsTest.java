@@ -99,6 +99,11 @@ public final class DeedsTest {
         due.is("not across the end of a block", x.grow(2, 1), 3);
         due.is("moved to a free block", x.inode(2, 5), 8);
         due.is("moved twice", x.rule(14), 2);
+        x = Due.told("volume 1 4 4 0 0 4;file 0 0 1;file 0 1 2;");
+        // INODE 2 at 2 3; 4 is FREE, but of another BLOCK.
+        due.is("a tail that ends its block", x.grow(2, 1), 3);
+        due.is("is not extended", x.rule(13) * 10 + x.rule(14), 1);
+        due.is("but moved", x.inode(2, 5), 4);
     }
 
     private static void growingToBlocks() {
@@ -361,6 +366,10 @@ public final class DeedsTest {
         x = Due.told("volume 1 8 3 2 0 2;file 0 0 12;");
         // 1 4, led on 2: p, p and 3, p and 6 below 8 are 0 3 6 and 1 4 7
         due.is("no row below B", x.gather(1), FULL);
+        x = Due.told("volume 2 4 4 0 0 4;file 0 0 8;");
+        // 1 2; FREE in GROUP 0 is 3 alone
+        due.is("no row over the end of a group", x.gather(1), 1);
+        due.is("the first of the next", x.block(1, 0) * 10 + x.block(1, 1), 45);
     }
 
     private static void gatheringInOtherGroups() {

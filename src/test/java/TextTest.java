@@ -26,6 +26,8 @@ public final class TextTest {
         for (int i = 0; i < 8; i++) {
             due.is("new: inode " + i, x.inode(i, 0), i == 0 ? 1 : 0);
         }
+        due.is("new: free blocks", x.group(0, 1) * 10 + x.group(1, 1), 34);
+        due.is("new: runs", x.group(0, 6) * 10 + x.group(1, 6), 10);
         due.is("new: fault", x.fault(), 0);
         due.is("new: images", x.count(0), 0);
         due.is("new: bytes", x.count(1), 0);
@@ -113,6 +115,12 @@ public final class TextTest {
         fault(2, "^volumes 1 1 1 0 0 1;");
         fault(2, "^volum 1 1 1 0 0 1;");
         fault(2, " ^volumedir");
+        fault(2, "^xolume 1 1 1 0 0 1;");
+        fault(2, "^volumez 1 1 1 0 0 1;");
+        fault(2, "^avolume 1 1 1 0 0 1;");
+        fault(2, "volume 1^");
+        fault(2, v + "^z");
+        fault(2, v + "^a");
         fault(2, "^;");
         fault(2, "^7");
         fault(2, "volume1^x");
@@ -208,5 +216,7 @@ public final class TextTest {
         due.is("a fault", Due.tell(x, "?"), -10);
         due.is("a text behind a fault", Due.tell(x, "volume 1 1 1 0 0 1;"), 1);
         due.is("the latest has none", x.fault(), 0);
+        due.is("a text with a dir", Due.tell(x, "volume 2 4 4 0 0 4;dir 0 0;"), 2);
+        due.is("dirs are those of the text", Due.tell(x, "volume 2 4 4 0 0 4;dir 1 0;"), -33);
     }
 }
