@@ -1,3 +1,5 @@
+import java.util.function.IntSupplier;
+
 /** What a test shares: answers against those that are due, texts fed in one go. */
 final class Due {
     private final String test;
@@ -13,6 +15,47 @@ final class Due {
         if (got != want) {
             wrong++;
             System.out.println(test + ": " + call + " answered " + got + ", due is " + want);
+        }
+    }
+
+    /** The answers of many calls, in one row. */
+    void are(String calls, int[] got, int... want) {
+        asked++;
+        if (!java.util.Arrays.equals(got, want)) {
+            wrong++;
+            System.out.println(test + ": " + calls + " answered " + java.util.Arrays.toString(got) + ", due is "
+                + java.util.Arrays.toString(want));
+        }
+    }
+
+    /** A call that is refused, and leaves all as it was. */
+    void refused(String call, SpreadGroups x, IntSupplier answer, int want) {
+        String before = allOf(x);
+        is(call, answer.getAsInt(), want);
+        String behind = allOf(x);
+        asked++;
+        if (!behind.equals(before)) {
+            wrong++;
+            System.out.println(test + ": " + call + " has changed " + before + " to " + behind);
+        }
+    }
+
+    /** A text with a ^ where its FAULT is, told to a new object. */
+    void fault(int which, String marked) {
+        int place = marked.indexOf('^');
+        SpreadGroups x = new SpreadGroups();
+        String text = marked.substring(0, place) + marked.substring(place + 1);
+        is("text " + marked, tell(x, text), -10 - place);
+        is("fault of " + marked, x.fault(), which);
+        is("bytes behind " + marked, x.count(1), 0);
+    }
+
+    void map(String call, SpreadGroups x, int first, String want) {
+        asked++;
+        String got = mapOf(x, first, want.length());
+        if (!got.equals(want)) {
+            wrong++;
+            System.out.println(test + ": " + call + ": the map from " + first + " is " + got + ", due is " + want);
         }
     }
 
@@ -41,6 +84,23 @@ final class Due {
             throw new IllegalArgumentException("not taken: " + text);
         }
         return x;
+    }
+
+    static int[] blocksOf(SpreadGroups x, int i) {
+        int[] blocks = new int[Math.max(0, x.inode(i, 4))];
+        for (int k = 0; k < blocks.length; k++) {
+            blocks[k] = x.block(i, k);
+        }
+        return blocks;
+    }
+
+    /** FRAGMENTS of THE MAP from first on: f FREE, x not. */
+    static String mapOf(SpreadGroups x, int first, int n) {
+        StringBuilder map = new StringBuilder();
+        for (int f = first; f < first + n; f++) {
+            map.append(x.fragment(f, 0) == 1 ? 'f' : 'x');
+        }
+        return map.toString();
     }
 
     /** All that can be asked of an object and changes nothing, as one text. */

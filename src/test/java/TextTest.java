@@ -175,12 +175,7 @@ public final class TextTest {
     }
 
     private static void fault(int which, String marked) {
-        SpreadGroups x = new SpreadGroups();
-        int place = marked.indexOf('^');
-        String text = marked.substring(0, place) + marked.substring(place + 1);
-        due.is(marked, Due.tell(x, text), -10 - place);
-        due.is(marked + " fault", x.fault(), which);
-        due.is(marked + " bytes", x.count(1), 0);
+        due.fault(which, marked);
     }
 
     private static void whatFaultsLeave() {
