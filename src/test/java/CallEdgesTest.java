@@ -111,6 +111,13 @@ public final class CallEdgesTest {
             due.is("free block " + free, y.group(1, 1), free == 15 ? 1 : 0);
             due.is("free fragments " + free, y.group(1, 0), Integer.bitCount(free));
             due.is("the other group's", y.group(0, 6), 1);
+            // The first BLOCK of all, too: there only the ROOT's is not FREE.
+            for (int f = 0; f < 4; f++) {
+                if ((free >> f & 1) == (f == 0 ? 1 : 0)) {
+                    y.flip(f);
+                }
+            }
+            due.are("runs of " + Due.mapOf(y, 0, 4), new int[] {y.group(0, 4), y.group(0, 5), y.group(0, 6)}, runs[free]);
         }
     }
 

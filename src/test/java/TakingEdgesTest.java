@@ -15,6 +15,8 @@ public final class TakingEdgesTest {
         firstInodeThere();
         blockFromItsPlaceOn();
         blockRound();
+        blockRoundStaysInItsGroup();
+        blockInGroupsOfOne();
         blockInAGroupBehind();
         blockInTheFirstGroupRound();
         blockOfAnotherGroupIsItsFirst();
@@ -23,6 +25,7 @@ public final class TakingEdgesTest {
         runsAheadOfFreeBlocks();
         runsEndWithTheirBlock();
         runsInGroupsBehind();
+        runOfTheNextGroup();
         runInTheFirstGroupRound();
         whatIsTakenIsNotFree();
         firstBlockOfAFile();
@@ -168,6 +171,35 @@ public final class TakingEdgesTest {
         due.are("over the end of the group", Due.blocksOf(z, 2), 6, 1);
     }
 
+    /** Round is in g: not on into the next GROUP, whose first BLOCK is FREE all the while. */
+    private static void blockRoundStaysInItsGroup() {
+        SpreadGroups x = Due.told("volume 2 4 4 0 0 8;file 0 0 4;file 0 1 4;file 0 2 4;");
+        x.remove(1);
+        // From PLACE 3 round: 3 and 0 are not FREE, 1 is.
+        due.is("grow", x.grow(2, 4), 8);
+        due.are("from the last place to the first that is free", Due.blocksOf(x, 2), 2, 1);
+        SpreadGroups y = Due.told("volume 3 4 2 0 0 8;file 0 0 0;file 0 1 4;file 0 2 8;");
+        y.remove(2);
+        y.make(0, 1, 2);
+        y.grow(2, 3);
+        due.is("a tail at the group's first block", y.inode(2, 5), 16);
+        y.shrink(2, 3);
+        y.make(0, 3, 2);
+        due.is("grow", y.grow(3, 8), 16);
+        due.are("to place 0 itself", Due.blocksOf(y, 3), 5, 6, 7, 4);
+    }
+
+    /** GROUPS of one BLOCK: each FILE's next one is near the GROUP of the last, round. */
+    private static void blockInGroupsOfOne() {
+        SpreadGroups x = Due.told("volume 4 1 2 0 0 8;file 0 0 0;file 0 1 0;file 0 2 0;file 0 3 8;file 0 4 5;");
+        due.are("their inodes", new int[] {x.find(0, 3), x.find(0, 4)}, 4, 5);
+        due.are("near the last block's group", Due.blocksOf(x, 4), 2, 3);
+        due.are("round", Due.blocksOf(x, 5), 1);
+        due.is("its tail", x.inode(5, 5), 1);
+        SpreadGroups y = Due.told("volume 4 1 2 0 0 8;file 0 0 0;file 0 1 0;file 0 2 0;file 0 3 5;");
+        due.are("a tail near the last block's group", new int[] {y.block(4, 0), y.inode(4, 5)}, 2, 12);
+    }
+
     /** "if there is none, in the first of GROUPS BEHIND g with a FREE one the first" */
     private static void blockInAGroupBehind() {
         SpreadGroups x = Due.told("volume 3 2 3 0 0 8;file 0 0 4;file 0 1 8;file 0 2 4;");
@@ -288,6 +320,15 @@ public final class TakingEdgesTest {
         due.is("the one that is left", y.make(0, 3, 2), 4);
         due.is("the one that is left", y.grow(4, 1), 1);
         due.is("is of its own group", y.inode(4, 5), 7);
+    }
+
+    /** A RUN that begins the next GROUP is none of this one, though it is shorter. */
+    private static void runOfTheNextGroup() {
+        SpreadGroups x = Due.told("volume 2 3 2 0 0 8;file 0 0 3;file 0 1 1;file 0 2 1;");
+        x.remove(2);
+        due.map("one is free where the second group begins", x, 12, "fxff");
+        due.is("to a block and a tail", x.grow(1, 2), 5);
+        due.is("the tail in its own group", x.inode(1, 5), 1);
     }
 
     private static void runInTheFirstGroupRound() {
