@@ -79,6 +79,11 @@ public final class VolumeEdgesTest {
         due.is("an inode behind the last", x.inode(inodes, 0), BAD);
         due.is("block of the last inode", x.block(inodes - 1, 0), NONE);
         due.is("block of an inode behind the last", x.block(inodes, 0), BAD);
+        int out = inodes;
+        due.are("calls of an inode behind the last", new int[] {
+            x.find(out, 0), x.entry(out, 0), x.where(out, 1), x.where(out, 2), x.make(out, 0, 1), x.make(out, 0, 2), x.grow(out, 1),
+            x.shrink(out, 1), x.remove(out), x.move(out, 0, 0), x.move(0, out, 0), x.gather(out),
+        }, BAD, BAD, BAD, BAD, BAD, BAD, BAD, BAD, BAD, BAD, BAD, BAD);
         due.is("the last fragment", x.fragment(fragments - 1, 0), 1);
         due.is("a fragment behind the last", x.fragment(fragments, 0), BAD);
         due.is("who has a fragment behind the last", x.fragment(fragments, 1), BAD);
