@@ -1,7 +1,7 @@
 /**
  * The edges that promises 6 to 14, 17, 18 and 20 to 26 name: the last input that is in and the first that is out, the
- * empty and the full, which answer goes first, and that a refused call leaves all as it was. Each method's comment has
- * the sentence that it would see broken.
+ * empty and the full, which answer goes first, and that a refused call leaves all as it was.
+ * A method's comment has the sentence that it would see broken; one without goes on with the sentence ahead.
  */
 public final class CallEdgesTest {
     private static final int BAD = SpreadGroups.BAD, STATE = SpreadGroups.STATE;

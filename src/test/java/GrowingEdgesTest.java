@@ -2,8 +2,8 @@ import java.util.ArrayList;
 import java.util.List;
 
 /**
- * The edges that the document names in 2 for a FILE that GROWS or SHRINKS, PAIRS, GATHER, and promises 15, 16, 19. Each
- * method's comment has the sentence that it would see broken.
+ * The edges that the document names in 2 for a FILE that GROWS or SHRINKS, PAIRS, GATHER, and promises 15, 16, 19.
+ * A method's comment has the sentence that it would see broken; one without goes on with the sentence ahead.
  */
 public final class GrowingEdgesTest {
     private static final int BAD = SpreadGroups.BAD, STATE = SpreadGroups.STATE;

@@ -1,6 +1,7 @@
 /**
  * The edges that the document names in 2 for GROUPS BEHIND, the GROUP for an INODE, TAKING a BLOCK, TAKING a RUN, and
- * where BLOCK k and a TAIL are near to. Each method's comment has the sentence that it would see broken.
+ * where BLOCK k and a TAIL are near to.
+ * A method's comment has the sentence that it would see broken; one without goes on with the sentence ahead.
  */
 public final class TakingEdgesTest {
     private static final int FULL = SpreadGroups.FULL, NONE = SpreadGroups.NONE;

@@ -1,6 +1,6 @@
 /**
- * The edges that the document names for THE TAPE, its TOKENS, its text and its FAULTS, and promises 2 to 5. Each
- * method's comment has the sentence that it would see broken.
+ * The edges that the document names for THE TAPE, its TOKENS, its text and its FAULTS, and promises 2 to 5.
+ * A method's comment has the sentence that it would see broken; one without goes on with the sentence ahead.
  */
 public final class TapeEdgesTest {
     private static final int BAD = SpreadGroups.BAD, STATE = SpreadGroups.STATE;

@@ -1,6 +1,7 @@
 /**
  * The edges that the document names in 1 A VOLUME: bounds of its six numbers, how things are numbered, NAMES, SIZES,
- * TAILS, what is FREE, ANEW. Each method's comment has the sentence that it would see broken.
+ * TAILS, what is FREE, ANEW.
+ * A method's comment has the sentence that it would see broken; one without goes on with the sentence ahead.
  */
 public final class VolumeEdgesTest {
     private static final int BAD = SpreadGroups.BAD, STATE = SpreadGroups.STATE;
